@@ -16,6 +16,10 @@ public final class PlaneCuts {
     private static final int MOST_BYTES = 100;
     private static final int MOST_CHANGES = 6;
     private static final int SETS = 1 << MOST_PLANES;
+    /** Of circuits, flats of one rank or base sets of one size none contains another. */
+    private static final int MOST_APART = 126;
+    /** Twice the sum of 1, 8, 28 and 56, for nine hyperplanes of which each four are independent. */
+    private static final int MOST_REGIONS = 186;
 
     private final Arrangement now;
     private final Arrangement before;
@@ -303,9 +307,9 @@ public final class PlaneCuts {
         for (int j = 0; j <= MOST_DIMENSIONS; j++) {
             h = mixed(h, polynomial(now.all(), j));
         }
-        h = mixed(mixed(h, rings(NONE)), parts(NONE));
+        h = mixed(mixed(h, rings(NONE)), matroid.countRegions());
         for (int k = 0; k <= MOST_DIMENSIONS; k++) {
-            h = mixed(h, base(k, NONE));
+            h = mixed(h, algebra.baseSetsOfSize(k).count);
         }
         return h;
     }
@@ -666,15 +670,12 @@ public final class PlaneCuts {
 
     /** Ranks, flats, circuits and characteristic polynomials. */
     private static final class Matroid {
-        /** No circuit contains another, and nine things have at most 126 such subsets. */
-        private static final int MOST_CIRCUITS = 126;
-
         private final Arrangement plan;
         private final Matrix matrix = new Matrix();
         private final int[] ranks = new int[SETS];
         private final boolean[] flat = new boolean[SETS];
-        private final Listing circuits = new Listing(MOST_CIRCUITS);
-        private final Listing picked = new Listing(SETS);
+        private final Listing circuits = new Listing(MOST_APART);
+        private final Listing picked = new Listing(MOST_APART);
         private final int[] factors = new int[MOST_PLANES];
         private int seen = NONE;
 
@@ -818,6 +819,10 @@ public final class PlaneCuts {
 
         int coefficient(int set, int power) {
             refresh();
+            return coefficientFromRanks(set, power);
+        }
+
+        private int coefficientFromRanks(int set, int power) {
             int rank = plan.dimensions - power;
             int sum = 0;
             for (int part = 0; part <= set; part++) {
@@ -831,13 +836,14 @@ public final class PlaneCuts {
         /** By Whitney's theorem the last coefficient of a flat's own polynomial is its Moebius value. */
         int moebius(int flatSet) {
             refresh();
-            return coefficient(flatSet, plan.dimensions - ranks[flatSet]);
+            return coefficientFromRanks(flatSet, plan.dimensions - ranks[flatSet]);
         }
 
         int valueAt(int t) {
+            refresh();
             int sum = 0;
             for (int power = MOST_DIMENSIONS; power >= 0; power--) {
-                sum = sum * t + coefficient(plan.all(), power);
+                sum = sum * t + coefficientFromRanks(plan.all(), power);
             }
             return sum;
         }
@@ -854,7 +860,7 @@ public final class PlaneCuts {
         private final Matroid matroid;
         private final boolean[] real = new boolean[SETS];
         private final int[] galleries = new int[SETS];
-        private final Listing listing = new Listing(SETS);
+        private final Listing listing = new Listing(MOST_REGIONS);
         private int seen = NONE;
 
         Regions(Arrangement plan, Matroid matroid) {
@@ -874,7 +880,8 @@ public final class PlaneCuts {
             for (int set = 0; set <= plan.all(); set++) {
                 real[set] = true;
             }
-            Listing circuits = matroid.circuits();
+            matroid.refresh();
+            Listing circuits = matroid.circuits;
             for (int k = 0; k < circuits.count; k++) {
                 int circuit = circuits.sets[k];
                 int positive = positivePart(circuit);
@@ -975,14 +982,16 @@ public final class PlaneCuts {
                 return;
             }
             seen = plan.version;
+            matroid.refresh();
+            int all = plan.all();
             // Downwards, as each flat asks those that contain it, which are greater numbers.
-            for (int set = plan.all(); set >= 0; set--) {
-                modular[set] = matroid.isFlat(set) && isModular(set);
-                leads[set] = modular[set] && (set == plan.all() || nextAbove(set) != NONE);
+            for (int set = all; set >= 0; set--) {
+                modular[set] = matroid.flat[set] && isModular(set);
+                leads[set] = modular[set] && (set == all || nextAbove(set) != NONE);
             }
             links[0] = 0;
-            for (int k = 1; k <= matroid.rankOf(plan.all()) && leads[0]; k++) {
-                links[k] = nextAbove(links[k - 1]);
+            for (int k = 1; k <= matroid.ranks[all] && leads[links[k - 1]]; k++) {
+                links[k] = Math.max(0, nextAbove(links[k - 1]));
             }
         }
 
@@ -1108,7 +1117,7 @@ public final class PlaneCuts {
         /** For each set a circuit whose broken circuit is in it; 0 if there is none. */
         private final int[] broken = new int[SETS];
         private final int[] sum = new int[SETS];
-        private final Listing picked = new Listing(SETS);
+        private final Listing picked = new Listing(MOST_APART);
         private int seen = NONE;
 
         Algebra(Arrangement plan, Matroid matroid) {
@@ -1122,7 +1131,8 @@ public final class PlaneCuts {
             }
             seen = plan.version;
             Arrays.fill(broken, 0);
-            Listing circuits = matroid.circuits();
+            matroid.refresh();
+            Listing circuits = matroid.circuits;
             for (int k = 0; k < circuits.count; k++) {
                 int circuit = circuits.sets[k];
                 broken[circuit & circuit - 1] = circuit;
