@@ -1,8 +1,6 @@
 /** Each promise of the document with ordinary inputs, its edges, and wrong inputs. */
-public final class PromisesTest {
+public final class PromisesTest extends Bench {
     private static final Due DUE = new Due("PromisesTest");
-    private static final int NONE = -1, BAD = -2, NO = -3, FULL = -4, BEYOND = -5;
-    private static final int LEAST = Integer.MIN_VALUE, MOST = Integer.MAX_VALUE;
 
     public static void main(String[] args) {
         promise1();
@@ -18,7 +16,7 @@ public final class PromisesTest {
         promises13And14();
         promises15To17();
         promises18And19();
-        nineGeneric();
+        greatestNumbers();
         promise20();
         promises21And22();
         promise23();
@@ -36,64 +34,12 @@ public final class PromisesTest {
 
     // ---- helpers
 
-    private static PlaneCuts made(int dimensions, int kind) {
-        PlaneCuts x = new PlaneCuts();
-        x.space(dimensions);
-        x.makes(kind);
-        return x;
-    }
-
-    /** One row of four coefficients for each hyperplane. */
-    private static PlaneCuts with(int dimensions, int... rows) {
-        PlaneCuts x = new PlaneCuts();
-        x.space(dimensions);
-        for (int k = 0; k < rows.length; k += 4) {
-            DUE.is("plane", x.plane(rows[k], rows[k + 1], rows[k + 2], rows[k + 3]), k / 4);
-        }
-        return x;
-    }
-
-    /** Five lines of the plane, each two of them independent. */
-    private static PlaneCuts fiveLines() {
-        return with(2, 1, 0, 0, 0, 0, 1, 0, 0, 1, 1, 0, 0, 1, -1, 0, 0, 1, 2, 0, 0);
-    }
-
-    /** Four planes, each three of them independent. */
-    private static PlaneCuts fourGeneric() {
-        return with(3, 1, 0, 0, 0, 0, 1, 0, 0, 0, 0, 1, 0, 1, 1, 1, 0);
-    }
-
     private static void has(PlaneCuts x, String name, String rows) {
-        StringBuilder found = new StringBuilder();
-        for (int i = 0; i < x.told(5); i++) {
-            found.append(i == 0 ? "" : ", ");
-            for (int j = 0; j < x.told(4); j++) {
-                found.append(j == 0 ? "" : " ").append(x.of(i, j) - 10);
-            }
-        }
-        DUE.holds(name + " has the rows " + rows + ", and not " + found, rows.contentEquals(found));
+        DUE.is(name, rows(x), rows);
     }
 
     private static void errors(PlaneCuts x, String name, int bad, int no, int full) {
-        DUE.is(name + ": BAD counted", x.told(0), bad);
-        DUE.is(name + ": NO counted", x.told(1), no);
-        DUE.is(name + ": FULL counted", x.told(2), full);
-    }
-
-    private static int read(PlaneCuts x, String text) {
-        x.clear();
-        for (int k = 0; k < text.length(); k++) {
-            DUE.is("type in " + text, x.type(text.charAt(k)), k + 1);
-        }
-        return x.reads();
-    }
-
-    private static long mixed(long... numbers) {
-        long h = 2351;
-        for (long v : numbers) {
-            h = 31 * h + v;
-        }
-        return h;
+        DUE.is(name + ": counts of errors", counts(x), bad + " " + no + " " + full);
     }
 
     // ---- changes
@@ -373,10 +319,6 @@ public final class PromisesTest {
         }
     }
 
-    private static PlaneCuts nineLines() {
-        return with(2, 1, 0, 0, 0, 0, 1, 0, 0, 1, 1, 0, 0, 1, -1, 0, 0, 1, 2, 0, 0, 2, 1, 0, 0, 1, -2, 0, 0, 2, -1, 0, 0, 1, 3, 0, 0);
-    }
-
     private static void promises15To17() {
         PlaneCuts x = fourGeneric();
         // t^3 - 4 t^2 + 6 t - 3
@@ -465,9 +407,8 @@ public final class PromisesTest {
     }
 
     /** The greatest numbers that there can be: nine hyperplanes, each four of them independent. */
-    private static void nineGeneric() {
-        PlaneCuts x = with(4, 1, 0, 0, 0, 0, 1, 0, 0, 0, 0, 1, 0, 0, 0, 0, 1,
-                -2, 1, 3, 3, 3, -3, -1, -3, -1, 2, 3, -2, -3, -3, 2, 1, 1, 2, -2, 3);
+    private static void greatestNumbers() {
+        PlaneCuts x = nineGeneric();
         DUE.is("circuits", x.rings(NONE), 126);
         DUE.is("the last circuit", x.rings(125), 496);
         DUE.is("flats", x.flats(3, NONE), 84);
