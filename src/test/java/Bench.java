@@ -64,6 +64,11 @@ abstract class Bench {
         return x;
     }
 
+    /** The wrong sets for so many hyperplanes: just too great, with one bit too many, negative, far off. */
+    static int[] wrongSets(int many) {
+        return new int[] {1 << many, 1 << many | 1, (2 << many) - 1, -1, LEAST, MOST};
+    }
+
     static void types(PlaneCuts x, String text) {
         int had = x.told(3);
         for (int k = 0; k < text.length(); k++) {

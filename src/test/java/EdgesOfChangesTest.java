@@ -5,6 +5,8 @@ import java.util.function.ToIntFunction;
 /** The boundary cases of ARRANGEMENTS and UNDO and of the promises 1 to 8 and 30, each sentence with a test of its own. */
 public final class EdgesOfChangesTest extends Bench {
     private static final Due DUE = new Due("EdgesOfChangesTest");
+    /** Of answersOf(..). */
+    private static final int PARTS = 14;
 
     public static void main(String[] args) {
         arrangements();
@@ -18,6 +20,8 @@ public final class EdgesOfChangesTest extends Bench {
         of();
         undo();
         back();
+        askedBeforeAndAfter();
+        lastCall();
         DUE.end();
     }
 
@@ -464,10 +468,10 @@ public final class EdgesOfChangesTest extends Bench {
     private static void undoneOneByOne() {
         DUE.sentence("The latest six changes are kept and can be undone one by one");
         for (int many = 0; many <= 14; many++) {
-            PlaneCuts x = with(4);
+            PlaneCuts x = with(2);
             String[] seen = new String[many + 2];
             seen[0] = "3: ";
-            seen[1] = "4: ";
+            seen[1] = "2: ";
             for (int k = 0; k < many; k++) {
                 change(x, k);
                 seen[k + 2] = x.told(4) + ": " + rows(x);
@@ -485,13 +489,13 @@ public final class EdgesOfChangesTest extends Bench {
     /** A different kind of change for each number, so that each leaves another arrangement. */
     private static void change(PlaneCuts x, int k) {
         switch (k % 7) {
-            case 0: x.makes(2); break;
-            case 1: x.turns(k % 9); break;
-            case 2: x.drops(8); break;
-            case 3: x.plane(1, 2, 3, 3); break;
-            case 4: x.swaps(0, 8); break;
+            case 0: x.makes(3); break;
+            case 1: x.turns(k % 4); break;
+            case 2: x.drops(3); break;
+            case 3: x.plane(1, 2, 0, 0); break;
+            case 4: x.swaps(0, 3); break;
             case 5: read(x, "x0;x0;"); break;
-            default: x.space(4); break;
+            default: x.space(3 - k / 7); break;
         }
     }
 
@@ -569,5 +573,88 @@ public final class EdgesOfChangesTest extends Bench {
         DUE.is("as after the third of nine", rows(z), "1 -1 0, 1 1 0, 1 0 -1, 1 0 1, 0 1 -1, 0 1 1");
         refused(DUE, "of a new object", PlaneCuts::new, PlaneCuts::back, NO);
         DUE.is("a change after it is kept", z.makes(0) + z.told(7), 4);
+    }
+
+    private static void askedBeforeAndAfter() {
+        DUE.sentence("Arrangements can be changed by calls or by a text, with undo: no answer is left over from before a change");
+        followed("space", x -> x.space(2));
+        followed("space and plane", x -> x.space(4) + x.plane(0, 0, 0, 1));
+        followed("plane", x -> x.plane(1, 2, 0, 0));
+        followed("turns", x -> x.turns(1));
+        followed("drops the first", x -> x.drops(0));
+        followed("drops the last", x -> x.drops(4));
+        followed("swaps", x -> x.swaps(2, 3));
+        followed("makes fewer", x -> x.makes(0));
+        followed("makes more", x -> x.makes(3));
+        followed("reads", x -> read(x, "m2;t1;x0;"));
+        followed("back", x -> x.back());
+        followed("a command that fails", x -> read(x, "t1;x0;m1;p000;"));
+        followed("a change and back", x -> x.makes(3) + x.back());
+    }
+
+    /** x, y, x + y, z and x + 2 z: two circuits of three, which share a hyperplane. */
+    private static PlaneCuts five() {
+        return with(3, 1, 0, 0, 0, 0, 1, 0, 0, 1, 1, 0, 0, 0, 0, 1, 0, 1, 0, 2, 0);
+    }
+
+    private static void followed(String name, ToIntFunction<PlaneCuts> change) {
+        PlaneCuts x = five();
+        PlaneCuts fresh = five();
+        answers(x);
+        int answer = change.applyAsInt(x);
+        DUE.is(name, answer, change.applyAsInt(fresh));
+        DUE.is(name + ": answers", answers(x), answers(fresh));
+        // A part that was asked first may bring others up to date, so each is asked first once.
+        for (int part = 0; part < PARTS; part++) {
+            PlaneCuts before = five();
+            PlaneCuts after = five();
+            answers(before);
+            change.applyAsInt(before);
+            change.applyAsInt(after);
+            DUE.is(name + ": part " + part, answersOf(before, part), answersOf(after, part));
+        }
+    }
+
+    private static String answers(PlaneCuts x) {
+        StringBuilder all = new StringBuilder();
+        for (int part = 0; part < PARTS; part++) {
+            all.append(answersOf(x, part)).append(' ');
+        }
+        return all.toString();
+    }
+
+    private static String answersOf(PlaneCuts x, int part) {
+        int all = (1 << x.told(5)) - 1;
+        switch (part) {
+            case 0: return x.told(6) + " " + x.rank(all & 7);
+            case 1: return "" + x.closed(all & 3);
+            case 2: return x.flats(1, NONE) + " " + x.flats(2, NONE) + " " + x.flats(2, 0) + " " + x.flats(2, 1) + " " + x.flats(2, 2);
+            case 3: return "" + x.sign(all);
+            case 4: return x.rings(NONE) + " " + x.rings(0) + " " + x.rings(1) + " " + x.rings(2);
+            case 5: return x.factor(0, 0) + " " + x.factor(0, 1) + " " + x.factor(0, 2);
+            case 6: return x.polynomial(all, 0) + " " + x.polynomial(all, 1) + " " + x.value(-1) + " " + x.within(0, 1);
+            case 7: return x.parts(2) + " " + x.parts(3) + " " + x.parts(5) + " " + x.parts(20);
+            case 8: return x.walls(0) + " " + x.walls(all) + " " + x.walls(2) + " " + x.walls(3) + " " + x.parts(NONE);
+            case 9: return x.way(0, all, 0) + " " + x.way(0, all, 1);
+            case 10: return x.chain(0, 0) + " " + x.chain(1, 0) + " " + x.chain(2, 0) + " " + x.chain(2, 1);
+            case 11: return x.even(1) + " " + x.even(2) + " " + x.places(5, 0) + " " + x.places(2, 1);
+            case 12: return x.base(2, NONE) + " " + x.base(2, 2) + " " + x.base(2, 4) + " " + x.base(3, 1);
+            default: return x.form(all & 6, 0) + " " + x.form(all & 6, 1) + " " + x.form(all & 14, 1) + " " + x.form(all & 14, 2);
+        }
+    }
+
+    private static void lastCall() {
+        DUE.sentence("An object is used for at most 512 calls after it has been made");
+        PlaneCuts x = new PlaneCuts();
+        DUE.is("call 1", x.makes(3), 9);
+        for (int call = 2; call <= 507; call++) {
+            DUE.is("call " + call, x.turns(call % 9), 48);
+        }
+        DUE.is("call 508", x.told(7), 6);
+        for (int kept = 5; kept >= 3; kept--) {
+            DUE.is("call " + (514 - kept), x.back(), kept);
+        }
+        // The turns of the calls 2 to 504 are left: 10, 19 and so on up to 496 are 55 of hyperplane 1.
+        DUE.is("call 512", x.of(1, 1), 9);
     }
 }

@@ -26,11 +26,6 @@ public final class EdgesOfRegionsTest extends Bench {
         DUE.end();
     }
 
-    /** The wrong sets for so many hyperplanes: just too great, with one bit too many, negative, far off. */
-    private static int[] wrongSets(int many) {
-        return new int[] {1 << many, 1 << many | 1, (2 << many) - 1, -1, LEAST, MOST};
-    }
-
     // ---- promises 18 to 20
 
     private static void regions() {

@@ -650,6 +650,7 @@ public final class PromisesTest extends Bench {
         DUE.is("33 commands and a space", read(x, full + " "), 33);
         DUE.is("33 commands and a half", read(x, full + "d"), -110);
         DUE.is("33 commands and a wrong byte", read(x, full + "z"), -109);
+        x = with(2);
         DUE.is("100 spaces", read(x, " ".repeat(100)), -110);
         DUE.is("the last of 33 fails", read(x, "d2;".repeat(32) + "x0;"), -1032);
         DUE.is("why(1)", x.why(1), 32);
