@@ -1,4 +1,5 @@
 import java.util.ArrayDeque;
+import java.util.List;
 import java.util.function.Supplier;
 import java.util.function.ToIntFunction;
 
@@ -577,19 +578,22 @@ public final class EdgesOfChangesTest extends Bench {
 
     private static void askedBeforeAndAfter() {
         DUE.sentence("Arrangements can be changed by calls or by a text, with undo: no answer is left over from before a change");
-        followed("space", x -> x.space(2));
-        followed("space and plane", x -> x.space(4) + x.plane(0, 0, 0, 1));
-        followed("plane", x -> x.plane(1, 2, 0, 0));
-        followed("turns", x -> x.turns(1));
-        followed("drops the first", x -> x.drops(0));
-        followed("drops the last", x -> x.drops(4));
-        followed("swaps", x -> x.swaps(2, 3));
-        followed("makes fewer", x -> x.makes(0));
-        followed("makes more", x -> x.makes(3));
-        followed("reads", x -> read(x, "m2;t1;x0;"));
-        followed("back", x -> x.back());
-        followed("a command that fails", x -> read(x, "t1;x0;m1;p000;"));
-        followed("a change and back", x -> x.makes(3) + x.back());
+        List<ToIntFunction<PlaneCuts>> changes = List.of(x -> x.space(2), x -> x.space(4), x -> x.plane(1, 2, 0, 0),
+                x -> x.turns(1), x -> x.drops(0), x -> x.drops(4), x -> x.swaps(2, 3), x -> x.makes(0), x -> x.makes(3),
+                x -> read(x, "m2;t1;x0;"), x -> x.back(), x -> read(x, "t1;x0;m1;p000;"));
+        for (int first = 0; first < changes.size(); first++) {
+            followed("change " + first, EdgesOfChangesTest::five, changes.get(first));
+            for (int second = 0; second < changes.size(); second++) {
+                ToIntFunction<PlaneCuts> one = changes.get(first);
+                ToIntFunction<PlaneCuts> two = changes.get(second);
+                followed("changes " + first + " and " + second, EdgesOfChangesTest::five,
+                        x -> 10000 * one.applyAsInt(x) + two.applyAsInt(x));
+            }
+        }
+        for (int kind = 0; kind <= 3; kind++) {
+            int made = kind;
+            followed("makes(" + kind + ") of lines", Bench::fiveLines, x -> x.makes(made));
+        }
     }
 
     /** x, y, x + y, z and x + 2 z: two circuits of three, which share a hyperplane. */
@@ -597,17 +601,17 @@ public final class EdgesOfChangesTest extends Bench {
         return with(3, 1, 0, 0, 0, 0, 1, 0, 0, 1, 1, 0, 0, 0, 0, 1, 0, 1, 0, 2, 0);
     }
 
-    private static void followed(String name, ToIntFunction<PlaneCuts> change) {
-        PlaneCuts x = five();
-        PlaneCuts fresh = five();
+    private static void followed(String name, Supplier<PlaneCuts> maker, ToIntFunction<PlaneCuts> change) {
+        PlaneCuts x = maker.get();
+        PlaneCuts fresh = maker.get();
         answers(x);
         int answer = change.applyAsInt(x);
         DUE.is(name, answer, change.applyAsInt(fresh));
         DUE.is(name + ": answers", answers(x), answers(fresh));
         // A part that was asked first may bring others up to date, so each is asked first once.
         for (int part = 0; part < PARTS; part++) {
-            PlaneCuts before = five();
-            PlaneCuts after = five();
+            PlaneCuts before = maker.get();
+            PlaneCuts after = maker.get();
             answers(before);
             change.applyAsInt(before);
             change.applyAsInt(after);
